@@ -312,7 +312,7 @@ public final class DipLights {
         needRange(n, 0, MOST_DUEL);
         needRange(what, 0, 3);
         needTwoCars();
-        fillDuel(n);
+        fillDuel(freshMeeting(), n);
         int size = n + 1;
         switch (what) {
             case 0: return duelGame.restsOf(size);
@@ -334,11 +334,10 @@ public final class DipLights {
      * far - d and far - (d less 1) give other beams only where somebody is just d CELLS away:
      * elsewhere the costs are those of the neighbour, and no MEETING has to be gone through.
      */
-    private void fillDuel(int n) {
+    private void fillDuel(Meeting base, int n) {
         if (duelFilled >= n) {
             return;
         }
-        Meeting base = freshMeeting();
         for (int i = 0; i <= n; i++) {
             for (int j = 0; j <= n; j++) {
                 if (i > 0 && !base.everApartBy(i)) {
@@ -527,21 +526,20 @@ public final class DipLights {
 
     public long distances() throws IllegalStateException {
         needTwoCars();
-        return distanceBits();
+        return distanceBits(freshMeeting());
     }
 
-    private long distanceBits() {
+    private long distanceBits(Meeting now) {
         long bits = 0;
         for (int d = 0; d <= MOST_BOOK_DISTANCE; d++) {
-            if (bookFits(d)) {
+            if (bookFits(now, d)) {
                 bits |= 1L << d;
             }
         }
         return bits;
     }
 
-    private boolean bookFits(int d) {
-        Meeting now = freshMeeting();
+    private boolean bookFits(Meeting now, int d) {
         for (int i = 0; i < book.lines; i++) {
             int tenth = book.tenth[i];
             if (tenth >= now.tripOf(1).tenths || now.beamsBy(d, tenth) != book.full[i]) {
@@ -554,8 +552,8 @@ public final class DipLights {
     public int look(int what) throws IllegalArgumentException, IllegalStateException {
         needRange(what, 0, 1);
         needTwoCars();
-        long bits = distanceBits();
         Meeting now = freshMeeting();
+        long bits = distanceBits(now);
         int best = NONE;
         int least = NONE;
         for (int tenth = 0; tenth < now.tripOf(1).tenths; tenth++) {
@@ -1402,8 +1400,8 @@ public final class DipLights {
                 case SUBTRACT: return one - other;
                 case TIMES: return one * other;
                 case DIVIDE: return other == 0 ? 0 : one / other;
-                case LEAST: return Math.min(one, other);
-                default: return Math.max(one, other);
+                case LEAST: return one < other ? one : other;
+                default: return one > other ? one : other;
             }
         }
     }
@@ -1766,7 +1764,8 @@ public final class DipLights {
         }
 
         private int far(int tenth) {
-            return inView(tenth) ? apartIn(tenth) : NOT_IN_VIEW;
+            int cells = apartIn(tenth);
+            return cells > 0 ? cells : NOT_IN_VIEW;
         }
 
         /** Beams by far less a distance, of whoever is on the ROAD. */
