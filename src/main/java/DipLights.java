@@ -1741,8 +1741,9 @@ public final class DipLights {
 
         private void tellValues(Told told, Trip own) {
             Road road = told.road;
-            int[] values = told.valuesOfNobody();
+            int[] values = told.values;
             values[V_REACH] = road.reachBy(own.beamsNow);
+            values[V_FOG] = road.fog;
             values[V_BLIND] = own.blindNow;
             values[V_AGE] = own.age;
             values[V_WET] = road.wetAt(own.cellNow);

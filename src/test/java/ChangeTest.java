@@ -143,6 +143,11 @@ public final class ChangeTest {
         Kit.due("46 X", x.coat(0, 0), 1);
         Kit.due("46 X of the second", x.coat(1, 0), 15);
         Kit.due("46 the MEETING", x.tenths(), 10);
+        x.image();
+        x.drives(0, 1, 0);
+        Kit.due("41 the MEETING", x.tenths(), 20);
+        x.restore();
+        Kit.due("46 the MEETING again", x.tenths(), 10);
         Kit.due("48 changes", x.count(2), 3);
         Kit.due("44 they can be undone", x.undo(), 2);
         Kit.due("44 P", x.car(0, 1), 1);

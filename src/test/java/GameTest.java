@@ -110,6 +110,7 @@ public final class GameTest {
     private static void answers() {
         DipLights x = Kit.onRoad(SHORT);
         Kit.due("20 all cost 0: the least", x.answer(0, 20), 0);
+        Kit.due("20 of one alone", x.answer(1, 0), 0);
         Kit.law(x, "3 - 3 * mine");
         Kit.due("20 as early as he may", x.answer(0, 5), 5);
         Kit.due("20 5 and 6 alike: the least", x.answer(1, 6), 5);

@@ -96,6 +96,11 @@ public final class MeetingTest {
         Kit.rule(x, 0, "1 - mine");
         Kit.due("12 mine of the TENTH ahead: 0", x.at(0, 0, 1), 0);
         Kit.due("12 mine of the TENTH ahead: 1", x.at(0, 1, 1), 1);
+        Kit.rule(x, 0, "0");
+        Kit.due("12 dipped to the last", x.at(0, 9, 1), 0);
+        Kit.rule(x, 0, "mine");
+        Kit.due("12 full ahead of the first, again", x.at(0, 0, 1), 1);
+        Kit.due("12 full to the last", x.at(0, 9, 1), 1);
         Kit.rule(x, 0, "reach - 7");
         Kit.due("12 reach of the TENTH ahead", x.at(0, 0, 1), 1);
         Kit.rule(x, 0, "3 - reach");
@@ -303,6 +308,9 @@ public final class MeetingTest {
         Kit.road(x, "length 10;reach 3 3;wet 8 9;wet 2 2;car 20 1 0;");
         Kit.due("36 at the end", x.gap(0, 0), 2);
         Kit.due("36 its begin", x.gap(0, 1), 8);
+        Kit.road(x, "length 10;reach 3 3;wet 0 1;car 20 1 0;");
+        Kit.due("36 at the begin", x.gap(0, 0), 2);
+        Kit.due("36 its begin", x.gap(0, 1), 0);
         Kit.argument("36 another what", () -> x.gap(0, 2));
         Kit.argument("36 another what", () -> x.gap(0, -1));
         Kit.element("36 no such CAR", () -> x.gap(1, 2));

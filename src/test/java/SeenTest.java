@@ -245,6 +245,10 @@ public final class SeenTest {
         // By 1 one SEES it at 2 if the other one, by 3, has passed and is in VIEW no more.
         Kit.due("39 13 and 31 alike: the first", x.paces(0), 13);
         Kit.due("39 the one by 3 HITS", x.paces(1), 1);
+        Kit.road(x, "length 30;car 20 2 0;car 20 1 0;");
+        Kit.due("39 without COATS", x.paces(0), 33);
+        Kit.due("39 P as it is", x.car(0, 1), 2);
+        Kit.due("39 P as it is", x.car(1, 1), 1);
         Kit.argument("39 another what", () -> x.paces(2));
         Kit.argument("39 another what", () -> x.paces(-1));
         DipLights one = Kit.onRoad("car 20 1 0;");

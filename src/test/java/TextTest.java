@@ -5,6 +5,7 @@ public final class TextTest {
         tape();
         roadReads();
         roadForgets();
+        nothingIsLeft();
         roadFaults();
         tooMany();
         formulas();
@@ -102,6 +103,30 @@ public final class TextTest {
         Kit.due("3 fog of its own", x.told(5), 0);
     }
 
+    /** Every other text is read where the last but one was: nothing of that may be left. */
+    private static void nothingIsLeft() {
+        DipLights x = new DipLights();
+        String full = "length 12;" + "bend 0;".repeat(3) + "bend 11;bend 3;bend 4;" + "wet 0 11;".repeat(4)
+                + "coat 1 1;".repeat(10) + "fog 9;blind 9;reach 1 1;car 20 1 0;car 30 1 0;";
+        int[] want = {40, 0, 0, 0, 0, 0, 4, 0, 20, 6};
+        for (int i = 0; i < 4; i++) {
+            Kit.due("3 a full ROAD", Kit.road(x, full), 2);
+            Kit.due("8 bends", x.told(3), 4);
+            Kit.due("8 wet", x.told(4), 12);
+            Kit.due("8 COATS", x.told(2), 10);
+            if (i > 1) {
+                Kit.due("3 once more", Kit.road(x, full), 2);
+            }
+            Kit.due("3 an empty one", x.road(0), 0);
+            for (int what = 0; what < want.length; what++) {
+                Kit.due("8 told " + what + " of an empty one", x.told(what), want[what]);
+            }
+        }
+        Kit.due("3 the least of each", Kit.road(x, "length 10;bend 0;wet 0 0;coat 0 0;fog 0;blind 0;reach 1 1;car 17 1 0;"), 1);
+        Kit.due("3 the most of each", Kit.road(x, "length 60;bend 59;wet 59 59;coat 59 9;fog 9;blind 9;reach 40 20;"
+                + "car 99 3 9;car 99 3 9;"), 2);
+    }
+
     private static void faulty(String text, int kind, int place) {
         DipLights x = new DipLights();
         Kit.due("3 '" + text + "'", Kit.road(x, text), kind - 10);
@@ -134,6 +159,11 @@ public final class TextTest {
         faulty("car 20 1 10;", 2, 9);
         faulty("cars 20 1 1;", 1, 0);
         faulty("ca 20 1 1;", 1, 0);
+        faulty("fogz 1;", 1, 0);
+        faulty("afog 1;", 1, 0);
+        faulty("fog 1;{", 1, 6);
+        faulty("fog 1:", 1, 5);
+        faulty("fog 1/", 1, 5);
         faulty("Car 20 1 1;", 1, 0);
         faulty(";", 1, 0);
         faulty("  7;", 1, 2);
@@ -214,6 +244,7 @@ public final class TextTest {
         faultyFormula("far12", 1, 3);
         faultyFormula("12far", 1, 2);
         faultyFormula("fars", 1, 0);
+        faultyFormula("farz", 1, 0);
         faultyFormula("bend", 1, 0);
         faultyFormula("(1", 1, 2);
         faultyFormula("1)", 1, 1);
