@@ -1792,9 +1792,15 @@ public final class DipLights {
         }
 
         private int hitBits(Road road, int car) {
+            if (car >= road.cars) {
+                return 0;
+            }
+            Trip trip = tripOf(car);
             int bits = 0;
             for (int i = 0; i < road.coats; i++) {
-                bits |= hitBy(road, car, road.coatCell[i], road.coatBright[i]) << i;
+                if (trip.doesHit(road, road.coatCell[i], road.coatBright[i])) {
+                    bits |= 1 << i;
+                }
             }
             return bits;
         }
@@ -1804,7 +1810,7 @@ public final class DipLights {
         }
 
         private int costOf(Road road, int car) {
-            return HIT_COST * hitCount(road, car) + tripOf(car).unsafeTenths();
+            return HIT_COST * Integer.bitCount(hitBits(road, car)) + tripOf(car).unsafeTenths();
         }
     }
 

@@ -28,13 +28,15 @@ public final class GameTest {
     }
 
     private static void costs() {
-        DipLights x = Kit.onRoad(SHORT);
         for (int own = 0; own <= 60; own += own < 12 ? 1 : 16) {
+            DipLights x = Kit.onRoad(SHORT);
             for (int other = 0; other <= 60; other += other < 12 ? 1 : 16) {
                 Kit.due("18 CAR 0 by " + own + ", " + other, x.cost(0, own, other), unsafe(own, other));
                 Kit.due("18 CAR 1 by " + own + ", " + other, x.cost(1, own, other), unsafe(own, other));
             }
         }
+        DipLights x = Kit.onRoad(SHORT);
+        Kit.due("18 CAR 0 by 0, 0", x.cost(0, 0, 0), 0);
         Kit.due("18 nothing stays changed", x.at(0, 0, 1), 0);
         Kit.argument("18 own 61", () -> x.cost(0, 61, 0));
         Kit.argument("18 own -1", () -> x.cost(0, -1, 0));

@@ -21,6 +21,15 @@ final class Kit {
         System.out.println(what + " answered " + got + ", due is " + want);
     }
 
+    static void due(String what, String got, String want) {
+        if (got.equals(want)) {
+            right++;
+            return;
+        }
+        wrong++;
+        System.out.println(what + " answered " + got + ", due is " + want);
+    }
+
     static void element(String what, Call call) {
         thrown(what, call, NoSuchElementException.class);
     }

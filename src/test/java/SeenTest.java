@@ -112,9 +112,10 @@ public final class SeenTest {
 
     private static void nights() {
         // One CAR alone SEES 4 far: it HITS only those in CELLS 0 and 1.
-        DipLights x = Kit.onRoad("length 10;reach 4 4;coat 5 0;coat 6 0;car 20 1 0;");
+        String road = "length 10;reach 4 4;coat 5 0;coat 6 0;car 20 1 0;";
         int[] seeds = {0, 1, -1, 77, 123456789, Integer.MIN_VALUE, Integer.MAX_VALUE};
         for (int seed : seeds) {
+            DipLights x = Kit.onRoad(road);
             for (int many = 1; many <= 20; many++) {
                 int[] cells = draws(seed, 2 * many, 10);
                 int hits = 0;
@@ -132,6 +133,8 @@ public final class SeenTest {
                 Kit.due("32 the most", x.nights(seed, many, 3), most);
             }
         }
+        DipLights x = Kit.onRoad(road);
+        x.nights(1, 20, 0);
         Kit.due("32 nothing stays changed", x.coat(0, 0), 5);
         Kit.argument("32 many 0", () -> x.nights(1, 0, 0));
         Kit.argument("32 many 21", () -> x.nights(1, 21, 0));
