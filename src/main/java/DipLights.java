@@ -1792,9 +1792,6 @@ public final class DipLights {
         }
 
         private int hitBits(Road road, int car) {
-            if (car >= road.cars) {
-                return 0;
-            }
             Trip trip = tripOf(car);
             int bits = 0;
             for (int i = 0; i < road.coats; i++) {

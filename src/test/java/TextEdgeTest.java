@@ -20,6 +20,7 @@ public final class TextEdgeTest {
         endsTooEarly();
         nothingMore();
         whatCannotStand();
+        numbersMissing();
         bytes();
         blanks();
         numbersAndWords();
@@ -390,6 +391,27 @@ public final class TextEdgeTest {
         faulty("book", "1 mine;", 1, 2);
         faulty("book", "-1 1;", 1, 0);
         faulty("book", "1,1;", 1, 1);
+    }
+
+    /** A CLAUSE with a number too few: what stands in its place, ";" among it, can't; a wrong one comes first. */
+    private static void numbersMissing() {
+        String[] missing = {"length ;", "bend ;", "wet ;", "wet 4 ;", "coat ;", "coat 6 ;", "fog ;", "blind ;", "reach ;",
+            "reach 3 ;", "car ;", "car 20 ;", "car 20 1 ;"};
+        for (String clause : missing) {
+            faulty("road", clause, 1, clause.length() - 1);
+            faulty("road", clause + "car 20 1 1;", 1, clause.length() - 1);
+            faulty("road", clause.replace(" ;", " fog 1;"), 1, clause.length() - 1);
+        }
+        faulty("road", "car 2 1;", 2, 4);
+        faulty("road", "car 2 1 1;", 2, 4);
+        faulty("road", "car 20 7;", 2, 7);
+        faulty("road", "reach 41;", 2, 6);
+        faulty("road", "coat 40;", 2, 5);
+        faulty("road", "wet 40;", 2, 4);
+        faulty("book", "5 ;", 1, 2);
+        faulty("book", ";", 1, 0);
+        faulty("book", "5 7;", 2, 2);
+        faulty("book", "100;", 2, 0);
     }
 
     private static int next(String text, int from) {
