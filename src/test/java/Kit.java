@@ -5,7 +5,26 @@ final class Kit {
     private static int right = 0;
     private static int wrong = 0;
 
+    // A call that does not end is a wrong answer, too.
+    private static final long LONGEST_MILLISECONDS = 300000;
+
+    static {
+        Thread watch = new Thread(Kit::stopTooLong);
+        watch.setDaemon(true);
+        watch.start();
+    }
+
     private Kit() {
+    }
+
+    private static void stopTooLong() {
+        try {
+            Thread.sleep(LONGEST_MILLISECONDS);
+        } catch (InterruptedException e) {
+            return;
+        }
+        System.out.println("a call has not ended in time");
+        Runtime.getRuntime().halt(1);
     }
 
     interface Call {
